@@ -305,6 +305,7 @@ public final class SceneTree {
         return (int) Math.max(-BOUND, Math.min(BOUND, number));
     }
 
+    /** The divisor stays far above 0, as p is at most 1048576; it is looked at all the same. */
     private static int sine(int k) {
         int angle = Math.floorMod(k, FULL_TURN);
         int inHalf = angle < HALF_TURN ? angle : angle - HALF_TURN;
@@ -332,9 +333,9 @@ public final class SceneTree {
             return whole;
         }
 
-        /** A turn by k from axis p towards axis q; the third axis stays, and the fourth column is 0 from the start. */
+        /** A turn by k from axis p towards axis q; the other cells of the matrix are 0 from the start. */
         private static void spin(int[] matrix, int p, int q, int k) {
-            int still = ROWS - p - q;
+            int still = 0 + 1 + 2 - p - q;
             int s = sine(k);
             int c = sine(k + QUARTER_TURN);
             matrix[COLUMNS * still + still] = ONE;

@@ -4,7 +4,7 @@ import java.lang.management.ManagementFactory;
 /** All memory is the tree's own, made once: after the constructor a call that does not throw makes nothing. */
 public final class RoomTest {
     private static final int ROUNDS = 200;
-    /** Far below one smallest object a round, and above what the measuring itself may make. */
+    /** Half of one smallest object a round, and above what the measuring itself may make. */
     private static final long MOST_BYTES = 16L * ROUNDS / 2;
 
     private static long kept = 0;
