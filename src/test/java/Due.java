@@ -10,6 +10,9 @@ final class Due {
     /** Outside on each side, for a scene of five nodes. */
     static final int[] NO_NODES_OF_SMALL = {-1, -2, 5, 6, 47, 48, LEAST, GREATEST};
 
+    static final Cells WORLD = new Cells("world", SceneTree::world);
+    static final Cells MODEL = new Cells("model", SceneTree::model);
+
     private Due() {
     }
 
@@ -21,19 +24,11 @@ final class Due {
     }
 
     static void world(String of, SceneTree tree, int node, int... want) {
-        for (int cell = 0; cell < 12; cell++) {
-            int i = cell / 4;
-            int j = cell % 4;
-            Check.due(of + " world(" + node + ", " + i + ", " + j + ")", () -> tree.world(node, i, j), want[cell]);
-        }
+        WORLD.due(of, tree, node, want);
     }
 
     static void model(String of, SceneTree tree, int node, int... want) {
-        for (int cell = 0; cell < 12; cell++) {
-            int i = cell / 4;
-            int j = cell % 4;
-            Check.due(of + " model(" + node + ", " + i + ", " + j + ")", () -> tree.model(node, i, j), want[cell]);
-        }
+        MODEL.due(of, tree, node, want);
     }
 
     static void order(String of, SceneTree tree, int... want) {

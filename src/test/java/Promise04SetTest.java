@@ -8,10 +8,7 @@ public final class Promise04SetTest {
 
     @Sentence("A node's move (what 0), turn (1) or size (2) is x y z: true")
     static void theNumbersAreKept() {
-        SceneTree tree = new SceneTree();
-        for (int node = 0; node < 3; node++) {
-            tree.add(node - 1, 1);
-        }
+        SceneTree tree = Scene.chain(3, 1);
         Check.due("set move", tree.set(1, 0, 3, -4, 5), true);
         Check.due("set turn", tree.set(1, 1, -6, 7, -8), true);
         Check.due("set size", tree.set(1, 2, 9, 0, -11), true);
@@ -22,10 +19,7 @@ public final class Promise04SetTest {
 
     @Sentence("A node's move (what 0), turn (1) or size (2) is x y z: true")
     static void nodesBelowFollow() {
-        SceneTree tree = new SceneTree();
-        for (int node = 0; node < 3; node++) {
-            tree.add(node - 1, 1);
-        }
+        SceneTree tree = Scene.chain(3, 1);
         tree.add(-1, 1);
         Check.due("below, before set", tree.world(2, 0, 3), 0);
         tree.set(0, 0, 100, 200, 300);

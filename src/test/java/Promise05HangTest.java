@@ -6,10 +6,7 @@ public final class Promise05HangTest {
 
     @Sentence("A node's parent is another one before it, or none (-1): true")
     static void theNodeAndAllBelowFollow() {
-        SceneTree tree = new SceneTree();
-        for (int node = 0; node < 3; node++) {
-            tree.add(node - 1, 1);
-        }
+        SceneTree tree = Scene.chain(3, 1);
         tree.set(0, 0, 100, 0, 0);
         tree.set(1, 0, 10, 0, 0);
         tree.set(2, 0, 1, 0, 0);

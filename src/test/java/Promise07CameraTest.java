@@ -6,15 +6,9 @@ public final class Promise07CameraTest {
         Check.run("Promise 7, camera", Promise07CameraTest.class);
     }
 
-    private static SceneTree oneNode() {
-        SceneTree tree = new SceneTree();
-        tree.add(-1, 1);
-        return tree;
-    }
-
     @Sentence("The camera's move (what 0) or turn (1) is x y z: true")
     static void theCameraMovesAndTurns() {
-        SceneTree tree = oneNode();
+        SceneTree tree = Scene.chain(1, 1);
         Check.due("move", tree.camera(0, 1000, -2000, 3), true);
         Due.model("moved:", tree, 0, Due.ONE, 0, 0, -1000, 0, Due.ONE, 0, 2000, 0, 0, Due.ONE, -3);
         Check.due("turn", tree.camera(1, 0, 1024, 0), true);
@@ -31,7 +25,7 @@ public final class Promise07CameraTest {
             for (int number : new int[] {Due.WIDEST_MOVE, -Due.WIDEST_MOVE}) {
                 int[] to = {1, 2, 3};
                 to[axis] = number;
-                SceneTree tree = oneNode();
+                SceneTree tree = Scene.chain(1, 1);
                 Check.due("camera(0, ..) with " + number + " on axis " + axis, tree.camera(0, to[0], to[1], to[2]), true);
                 Due.model("seen from there:", tree, 0,
                     Due.ONE, 0, 0, -to[0], 0, Due.ONE, 0, -to[1], 0, 0, Due.ONE, -to[2]);
@@ -41,7 +35,7 @@ public final class Promise07CameraTest {
 
     @Sentence("THE CAMERA has a move and a turn, as nodes.")
     static void theLastTurnsWithin() {
-        SceneTree tree = oneNode();
+        SceneTree tree = Scene.chain(1, 1);
         for (int axis = 0; axis < 3; axis++) {
             for (int number : new int[] {Due.WIDEST_TURN, -Due.WIDEST_TURN}) {
                 int[] to = {0, 0, 0};

@@ -4,18 +4,10 @@ public final class Promise08WorldTest {
         Check.run("Promise 8, world", Promise08WorldTest.class);
     }
 
-    /** The numbers make every rounding count; what is due was worked out apart from this program. */
+    /** What is due was worked out apart from this program. */
     @Sentence("WORLD of a node at row i, column j")
     static void worldOfCrookedNodes() {
-        SceneTree tree = new SceneTree();
-        tree.add(-1, 1);
-        tree.add(0, 1);
-        tree.set(0, 0, 100000, -200001, 300003);
-        tree.set(0, 1, 137, -911, 2503);
-        tree.set(0, 2, 70001, -50003, 131079);
-        tree.set(1, 0, -7, 65537, -123457);
-        tree.set(1, 1, -3001, 555, 99);
-        tree.set(1, 2, 65536, 32767, -65537);
+        SceneTree tree = Scene.crooked();
         Due.world("below:", tree, 1,
             81261, -47299, -22563, 324260, -16502, -26511, 31540, -110694, -55372, -7188, -32897, 227784);
         Due.world("above:", tree, 0,
@@ -58,43 +50,26 @@ public final class Promise08WorldTest {
 
     @Sentence("A MATRIX has 3 rows of 4")
     static void theLastRowsAndColumnsWithin() {
-        SceneTree tree = new SceneTree();
-        tree.add(-1, 1);
-        tree.set(0, 0, 2, 3, 4);
-        Check.due("world(0, 0, 0)", () -> tree.world(0, 0, 0), Due.ONE);
-        Check.due("world(0, 0, 3)", () -> tree.world(0, 0, 3), 2);
-        Check.due("world(0, 2, 0)", () -> tree.world(0, 2, 0), 0);
-        Check.due("world(0, 2, 3)", () -> tree.world(0, 2, 3), 4);
+        Due.WORLD.lastRowsAndColumnsWithin();
     }
 
     @Sentence("NoSuchElementException if there is none such.")
     static void theFirstRowsOutside() {
-        for (int i : new int[] {-1, 3, 4, Due.LEAST, Due.GREATEST}) {
-            for (int j : new int[] {0, 3}) {
-                Refusal.byThrowing("world(0, " + i + ", " + j + ")", Scene.small(), tree -> tree.world(0, i, j));
-                Refusal.byThrowing("world(4, " + i + ", " + j + ")", Scene.small(), tree -> tree.world(4, i, j));
-            }
-        }
+        Due.WORLD.firstRowsOutside();
     }
 
-    /** A cell of another row would be found at some of these if the rows stood one behind the other unchecked. */
     @Sentence("NoSuchElementException if there is none such.")
     static void theFirstColumnsOutside() {
-        for (int j : new int[] {-1, 4, 5, 11, Due.LEAST, Due.GREATEST}) {
-            for (int i = 0; i < 3; i++) {
-                int row = i;
-                Refusal.byThrowing("world(1, " + row + ", " + j + ")", Scene.small(), tree -> tree.world(1, row, j));
-            }
-        }
+        Due.WORLD.firstColumnsOutside();
+    }
+
+    @Sentence("NoSuchElementException if there is none such.")
+    static void theLastNodesWithin() {
+        Due.WORLD.lastNodesWithin();
     }
 
     @Sentence("NoSuchElementException if there is none such.")
     static void theFirstNodesOutside() {
-        for (int node : Due.NO_NODES_OF_SMALL) {
-            Refusal.byThrowing("world(" + node + ", 0, 0)", Scene.small(), tree -> tree.world(node, 0, 0));
-            Refusal.byThrowing("world(" + node + ", 2, 3)", Scene.small(), tree -> tree.world(node, 2, 3));
-        }
-        Refusal.byThrowing("world(48, 0, 0) of 48", Scene.full(), tree -> tree.world(48, 0, 0));
-        Check.due("world(47, 2, 3) of 48 throws", Check.answerOf(() -> Scene.full().made().world(47, 2, 3)) == Check.THROWS, false);
+        Due.WORLD.firstNodesOutside();
     }
 }

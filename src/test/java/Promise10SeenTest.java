@@ -4,14 +4,6 @@ public final class Promise10SeenTest {
         Check.run("Promise 10, seen", Promise10SeenTest.class);
     }
 
-    private static SceneTree chain(int nodes, int kind) {
-        SceneTree tree = new SceneTree();
-        for (int node = 0; node < nodes; node++) {
-            tree.add(node - 1, kind);
-        }
-        return tree;
-    }
-
     @Sentence("How many nodes are seen.")
     static void noNodesAtAll() {
         Check.due("new: seen()", new SceneTree().seen(), 0);
@@ -31,14 +23,14 @@ public final class Promise10SeenTest {
 
     @Sentence("A node is SEEN if its kind is not 0")
     static void kind0IsNotSeen() {
-        Check.due("48 of kind 0", chain(48, 0).seen(), 0);
-        Check.due("48 of kind 1", chain(48, 1).seen(), 48);
-        Check.due("48 of kind 2", chain(48, 2).seen(), 48);
+        Check.due("48 of kind 0", Scene.chain(48, 0).seen(), 0);
+        Check.due("48 of kind 1", Scene.chain(48, 1).seen(), 48);
+        Check.due("48 of kind 2", Scene.chain(48, 2).seen(), 48);
     }
 
     @Sentence("A node is SEEN if its kind is not 0")
     static void kind0DoesNotHideThoseBelow() {
-        SceneTree tree = chain(3, 0);
+        SceneTree tree = Scene.chain(3, 0);
         tree.add(2, 1);
         Check.due("seen()", tree.seen(), 1);
         Due.order("below three of kind 0:", tree, 3);
@@ -47,7 +39,7 @@ public final class Promise10SeenTest {
     @Sentence("neither it nor one above it is hidden")
     static void aHiddenNodeHidesThoseBelow() {
         for (int hidden : new int[] {0, 1, 24, 46, 47}) {
-            SceneTree tree = chain(48, 1);
+            SceneTree tree = Scene.chain(48, 1);
             tree.hide(hidden, true);
             Check.due(hidden + " of a chain hidden: seen()", tree.seen(), hidden);
             tree.hide(hidden, false);
@@ -68,7 +60,7 @@ public final class Promise10SeenTest {
 
     @Sentence("neither it nor one above it is hidden")
     static void twoHiddenAboveOneAnother() {
-        SceneTree tree = chain(4, 1);
+        SceneTree tree = Scene.chain(4, 1);
         tree.hide(1, true);
         tree.hide(2, true);
         Check.due("two hidden: seen()", tree.seen(), 1);
@@ -81,7 +73,7 @@ public final class Promise10SeenTest {
 
     @Sentence("neither it nor one above it is hidden")
     static void oneThatIsHungElsewhereIsSeenAgain() {
-        SceneTree tree = chain(4, 1);
+        SceneTree tree = Scene.chain(4, 1);
         tree.hide(1, true);
         Check.due("seen()", tree.seen(), 1);
         tree.hang(2, 0);

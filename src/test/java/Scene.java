@@ -75,6 +75,29 @@ final class Scene {
             .then(tree -> tree.camera(1, 611, -1303, 77));
     }
 
+    /** Each node hangs at the one before it. */
+    static SceneTree chain(int nodes, int kind) {
+        SceneTree tree = new SceneTree();
+        for (int node = 0; node < nodes; node++) {
+            tree.add(node - 1, kind);
+        }
+        return tree;
+    }
+
+    /** Two nodes and a camera with numbers that make every rounding count. */
+    static SceneTree crooked() {
+        SceneTree tree = chain(2, 1);
+        tree.set(0, 0, 100000, -200001, 300003);
+        tree.set(0, 1, 137, -911, 2503);
+        tree.set(0, 2, 70001, -50003, 131079);
+        tree.set(1, 0, -7, 65537, -123457);
+        tree.set(1, 1, -3001, 555, 99);
+        tree.set(1, 2, 65536, 32767, -65537);
+        tree.camera(0, 54321, -98765, 400001);
+        tree.camera(1, 611, -1303, 77);
+        return tree;
+    }
+
     static Scene cleared() {
         return small().then(SceneTree::clear);
     }

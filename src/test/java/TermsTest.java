@@ -6,14 +6,6 @@ public final class TermsTest {
         Check.run("Terms", TermsTest.class);
     }
 
-    private static SceneTree chain(int nodes) {
-        SceneTree tree = new SceneTree();
-        for (int node = 0; node < nodes; node++) {
-            tree.add(node - 1, 1);
-        }
-        return tree;
-    }
-
     /** Without turns a size stands in the matrix as it is, so the node below is moved by MUL(size, move). */
     @Sentence("DIV(a, b): the greatest whole number that is not above a / b.")
     static void divOfNumbersBelow0() {
@@ -24,7 +16,7 @@ public final class TermsTest {
             {-1, -1, 0}, {-1, -65535, 0}, {-1, -65536, 1}, {-1, -65537, 1}, {0, -1, 0},
         };
         for (int[] row : due) {
-            SceneTree tree = chain(2);
+            SceneTree tree = Scene.chain(2, 1);
             tree.set(0, 2, row[0], row[0], row[0]);
             tree.set(1, 0, row[1], row[1], row[1]);
             for (int i = 0; i < 3; i++) {
@@ -35,7 +27,7 @@ public final class TermsTest {
 
     @Sentence("LOCAL of a node: at i, j below 3 BOUND(MUL(T at i, j, size j))")
     static void divOfTurnAndSize() {
-        SceneTree tree = chain(1);
+        SceneTree tree = Scene.chain(1, 1);
         tree.set(0, 1, 0, 0, 1);
         tree.set(0, 2, 1, 1, 1);
         Due.world("size 1:", tree, 0, 0, -1, 0, 0, 0, 0, 0, 0, 0, 0, 1, 0);
@@ -47,7 +39,7 @@ public final class TermsTest {
 
     @Sentence("TURN(a, b, c) = (Y(b) * X(a)) * Z(c), all with 0 in their fourth column")
     static void divOfTurns() {
-        SceneTree tree = chain(1);
+        SceneTree tree = Scene.chain(1, 1);
         tree.set(0, 1, 1, -1, 1);
         Due.world("1 -1 1:", tree, 0, 65533, -103, -102, 0, 101, 65534, -102, 0, 101, 99, 65534, 0);
         tree.set(0, 1, -1, -1, -1);
@@ -56,7 +48,7 @@ public final class TermsTest {
 
     @Sentence("at i, 3 BOUND(-(MUL(Vi0, mx) + MUL(Vi1, my) + MUL(Vi2, mz)))")
     static void divOfTheViewComesBeforeItsSign() {
-        SceneTree tree = chain(1);
+        SceneTree tree = Scene.chain(1, 1);
         tree.camera(1, 0, 0, 1);
         tree.camera(0, 1, 0, 0);
         Due.model("1 0 0:", tree, 0, 65535, 102, 0, 0, -102, 65535, 0, 1, 0, 0, 65536, 0);
@@ -69,7 +61,7 @@ public final class TermsTest {
 
     @Sentence("(A * B) at i, j is BOUND(MUL(Ai0, B0j) + MUL(Ai1, B1j) + MUL(Ai2, B2j) + (Ai3, if j is 3))")
     static void divOfEachProductByItself() {
-        SceneTree tree = chain(2);
+        SceneTree tree = Scene.chain(2, 1);
         tree.set(0, 1, 577, 681, 136);
         tree.set(1, 0, -1, -1, -1);
         dueMoves("-1 -1 -1:", tree, 1, -3, -2, -2);
@@ -79,7 +71,7 @@ public final class TermsTest {
 
     @Sentence("(A * B) at i, j is BOUND(MUL(Ai0, B0j) + MUL(Ai1, B1j) + MUL(Ai2, B2j) + (Ai3, if j is 3))")
     static void theFourthColumnCountsInTheFourthColumnOnly() {
-        SceneTree tree = chain(2);
+        SceneTree tree = Scene.chain(2, 1);
         tree.set(0, 0, 1000, 2000, 3000);
         tree.set(1, 0, 10, 20, 30);
         Due.world("two moves:", tree, 1, 65536, 0, 0, 1010, 0, 65536, 0, 2020, 0, 0, 65536, 3030);
@@ -102,7 +94,7 @@ public final class TermsTest {
             {Due.WIDEST_MOVE, -1, Due.BOUND - 1},
         };
         for (int[] row : due) {
-            SceneTree tree = chain(5);
+            SceneTree tree = Scene.chain(5, 1);
             for (int node = 0; node < 3; node++) {
                 tree.set(node, 0, Due.WIDEST_MOVE, -Due.WIDEST_MOVE, 0);
             }
@@ -124,7 +116,7 @@ public final class TermsTest {
             {1048576, 1048576, Due.BOUND, -Due.BOUND},
         };
         for (int[] row : due) {
-            SceneTree tree = chain(3);
+            SceneTree tree = Scene.chain(3, 1);
             tree.set(0, 2, Due.WIDEST_SIZE, -Due.WIDEST_SIZE, Due.WIDEST_SIZE);
             tree.set(1, 2, row[0], row[0], 0);
             tree.set(2, 2, row[1], row[1], row[1]);
@@ -137,7 +129,7 @@ public final class TermsTest {
 
     @Sentence("BOUND(v) is the nearest of -16777216 .. 16777216.")
     static void boundOfMovesInModel() {
-        SceneTree tree = chain(4);
+        SceneTree tree = Scene.chain(4, 1);
         for (int node = 0; node < 4; node++) {
             tree.set(node, 0, Due.WIDEST_MOVE, -Due.WIDEST_MOVE, Due.WIDEST_MOVE);
         }
@@ -155,7 +147,7 @@ public final class TermsTest {
 
     @Sentence("BOUND(v) is the nearest of -16777216 .. 16777216.")
     static void boundOfSizesInModel() {
-        SceneTree tree = chain(3);
+        SceneTree tree = Scene.chain(3, 1);
         tree.set(0, 2, Due.WIDEST_SIZE, Due.WIDEST_SIZE, Due.WIDEST_SIZE);
         tree.set(1, 2, Due.WIDEST_SIZE, Due.WIDEST_SIZE, Due.WIDEST_SIZE);
         tree.set(2, 2, 70000, 70000, 70000);
@@ -168,7 +160,7 @@ public final class TermsTest {
 
     @Sentence("(A * B) at i, j is BOUND(MUL(Ai0, B0j) + MUL(Ai1, B1j) + MUL(Ai2, B2j) + (Ai3, if j is 3))")
     static void boundIsTakenOfTheWholeSum() {
-        SceneTree tree = chain(2);
+        SceneTree tree = Scene.chain(2, 1);
         tree.set(0, 1, 0, 0, 512);
         tree.set(0, 2, Due.WIDEST_SIZE, Due.WIDEST_SIZE, Due.WIDEST_SIZE);
         tree.set(1, 0, 4194304, 3194304, 0);
@@ -181,7 +173,7 @@ public final class TermsTest {
 
     @Sentence("WORLD is its parent's WORLD * LOCAL")
     static void boundIsTakenAtEachNode() {
-        SceneTree tree = chain(7);
+        SceneTree tree = Scene.chain(7, 1);
         for (int node = 0; node < 6; node++) {
             tree.set(node, 0, Due.WIDEST_MOVE, -Due.WIDEST_MOVE, 0);
         }
@@ -192,7 +184,7 @@ public final class TermsTest {
     /** Three sizes of 16 with turns between them put BOUND at all nine places, so a move is 3 * 2^30 before BOUND. */
     @Sentence("(All is worked out in longs.)")
     static void sumsBeyondAnInt() {
-        SceneTree tree = chain(4);
+        SceneTree tree = Scene.chain(4, 1);
         for (int node = 0; node < 3; node++) {
             tree.set(node, 2, Due.WIDEST_SIZE, Due.WIDEST_SIZE, Due.WIDEST_SIZE);
         }
@@ -222,7 +214,7 @@ public final class TermsTest {
             {-1048575, 102}, {-1048576, 0},
         };
         for (int[] row : due) {
-            SceneTree tree = chain(1);
+            SceneTree tree = Scene.chain(1, 1);
             tree.set(0, 1, 0, 0, row[0]);
             Check.due("SIN(" + row[0] + ")", tree.world(0, 1, 0), row[1]);
             Check.due("-SIN(" + row[0] + ")", tree.world(0, 0, 1), -row[1]);
@@ -236,7 +228,7 @@ public final class TermsTest {
     @Sentence("for k below 2,048, with p = k * (2048 - k), DIV(1048576 * p, 20971520 - 4 * p); else - SIN(k - 2048)")
     static void sinOfEachK() {
         for (int k = -4096; k <= 8192; k++) {
-            SceneTree tree = chain(1);
+            SceneTree tree = Scene.chain(1, 1);
             tree.set(0, 1, 0, 0, k);
             Check.due("SIN(" + k + ")", tree.world(0, 1, 0), sin(k));
             Check.due("COS(" + k + ")", tree.world(0, 0, 0), sin(k + 1024));
@@ -258,7 +250,7 @@ public final class TermsTest {
             {-3072, 0}, {-3073, 102}, {1048576, 65536}, {-1048576, 65536}, {1048575, 65535}, {-1048575, 65535},
         };
         for (int[] row : due) {
-            SceneTree tree = chain(1);
+            SceneTree tree = Scene.chain(1, 1);
             tree.set(0, 1, 0, 0, row[0]);
             Check.due("COS(" + row[0] + ")", tree.world(0, 0, 0), row[1]);
         }
@@ -266,7 +258,7 @@ public final class TermsTest {
 
     @Sentence("X: 1 0 0, 0 C -S, 0 S C; Y: C 0 S, 0 1 0, -S 0 C; Z: C -S 0, S C 0, 0 0 1")
     static void theThreeTurns() {
-        SceneTree tree = chain(1);
+        SceneTree tree = Scene.chain(1, 1);
         tree.set(0, 1, 300, 0, 0);
         int s = 29134;
         int c = 58652;
@@ -279,7 +271,7 @@ public final class TermsTest {
 
     @Sentence("TURN(a, b, c) = (Y(b) * X(a)) * Z(c), all with 0 in their fourth column")
     static void theThreeTurnsInTheirOrder() {
-        SceneTree tree = chain(1);
+        SceneTree tree = Scene.chain(1, 1);
         tree.set(0, 1, 1024, 1024, 0);
         Due.world("Y * X:", tree, 0, 0, 65536, 0, 0, 0, 0, -65536, 0, -65536, 0, 0, 0);
         tree.set(0, 1, 1024, 0, 1024);
@@ -294,8 +286,8 @@ public final class TermsTest {
         for (int turn : turns) {
             int within = Math.floorMod(turn, 4096);
             for (int[] axis : AXES) {
-                SceneTree one = chain(1);
-                SceneTree other = chain(1);
+                SceneTree one = Scene.chain(1, 1);
+                SceneTree other = Scene.chain(1, 1);
                 one.set(0, 1, turn * axis[0], turn * axis[1], turn * axis[2]);
                 other.set(0, 1, within * axis[0], within * axis[1], within * axis[2]);
                 dueSame("turn " + turn + " and " + within, one, other);
