@@ -52,17 +52,18 @@ final class Refusal {
         int room = (Scene.MOST_CALLS - scene.calls() - 2) / 2;
         for (int from = 0; from < questions.size(); from += room) {
             List<Question> some = questions.subList(from, Math.min(from + room, questions.size()));
-            sameAsBefore(call, scene, refused, some);
+            sameAsBefore(call, scene, refused, due, some);
             for (Scene.Step later : LATER_CALLS) {
                 sameAsWithout(call, scene, refused, later, some);
             }
         }
     }
 
-    private static void sameAsBefore(String call, Scene scene, ToLongFunction<SceneTree> refused, List<Question> some) {
+    private static void sameAsBefore(
+            String call, Scene scene, ToLongFunction<SceneTree> refused, long due, List<Question> some) {
         SceneTree tree = scene.made();
         long[] before = answers(tree, some);
-        refused.applyAsLong(tree);
+        Check.due(call + " after questions", refused.applyAsLong(tree), due);
         same("before and after " + call, some, answers(tree, some), before);
     }
 
