@@ -59,8 +59,9 @@ public final class ReferenceTest {
         } else if (dealt < 28) {
             int what = near(dice, 12);
             Check.due(at + "about", () -> tree.about(node, what), Check.answerOf(() -> plain.about(node, what)));
-        } else if (dealt < 31) {
+        } else if (dealt < 29) {
             Check.due(at + "seen", tree.seen(), plain.seen());
+        } else if (dealt < 31) {
             int k = near(dice, plain.seen());
             Check.due(at + "inOrder(" + k + ")", tree.inOrder(k), plain.inOrder(k));
         } else if (dealt < 32) {

@@ -22,11 +22,14 @@ public final class RoomTest {
     private static void measure(ThreadMXBean counter) {
         counter.setThreadAllocatedMemoryEnabled(true);
         long self = Thread.currentThread().getId();
-        SceneTree tree = new SceneTree();
-        allCalls(tree);
+        SceneTree[] trees = new SceneTree[ROUNDS];
+        for (int round = 0; round < ROUNDS; round++) {
+            trees[round] = new SceneTree();
+        }
+        allCalls(trees[0]);
         counter.getThreadAllocatedBytes(self);
         long before = counter.getThreadAllocatedBytes(self);
-        for (int round = 0; round < ROUNDS; round++) {
+        for (SceneTree tree : trees) {
             allCalls(tree);
         }
         long made = counter.getThreadAllocatedBytes(self) - before;
