@@ -1,13 +1,13 @@
 import java.util.Random;
 
-/** How many calls an object is good for. */
+/** What holds for a whole run of calls: how many an object is good for, and that its answers hang on them alone. */
 public final class CallsTest {
     private static final int[] EDGES = {
         0, 1, 2, 3, 4, 11, 12, 46, 47, 48, -1, -2, 4194304, -4194304, 4194305, 1048576, -1048577, Due.LEAST, Due.GREATEST,
     };
 
     public static void main(String[] args) {
-        Check.run("What it is", CallsTest.class);
+        Check.run("Runs of calls", CallsTest.class);
     }
 
     /** 48 calls that add and 463 that move the last node, each one further. */
@@ -77,6 +77,16 @@ public final class CallsTest {
         SceneTree tree = new SceneTree();
         for (int call = 0; call < 20000; call++) {
             anyCall(dice, tree);
+        }
+    }
+
+    @Sentence("the same calls always give the same answers")
+    static void theSameCallsGiveTheSameAnswers() {
+        SceneTree one = Scene.full().made();
+        SceneTree other = Scene.full().made();
+        for (int node = 0; node < 48; node++) {
+            Check.due("model(" + node + ", 2, 3)", one.model(node, 2, 3), other.model(node, 2, 3));
+            Check.due("inOrder(" + node + ")", one.inOrder(node), other.inOrder(node));
         }
     }
 

@@ -1,15 +1,11 @@
-import java.io.IOException;
 import java.lang.reflect.Constructor;
 import java.lang.reflect.Field;
 import java.lang.reflect.Method;
 import java.lang.reflect.Modifier;
-import java.nio.file.Files;
-import java.nio.file.Path;
 import java.util.Set;
 import java.util.TreeSet;
-import java.util.regex.Pattern;
 
-/** The face of the class, and the rules of the language that can be seen without running it. */
+/** The class has the document's face and nothing more that others can see. */
 public final class FaceTest {
     private static final Set<String> FACE = Set.of(
         "public static final int SceneTree.NONE",
@@ -27,18 +23,41 @@ public final class FaceTest {
         "public int SceneTree.about(int,int) throws java.util.NoSuchElementException",
         "public int SceneTree.count()");
 
-    private static final String[] NOT_IN_THE_SOURCE = {
-        "->", "::", "\\bcatch\\b", "\\btry\\b", "\\bfinally\\b", "\\bassert\\b", "\\bsynchronized\\b", "\\bpackage\\b",
-        "\\bstatic\\s*\\{", "\\bjava\\.(?!util\\.NoSuchElementException;)", "\\bSystem\\.(?!arraycopy\\b)", "Exact\\b",
-    };
+    public static void main(String[] args) {
+        Check.run("The public face", FaceTest.class);
+    }
 
-    public static void main(String[] args) throws IOException {
-        Check.due("the class is public and final", SceneTree.class.getModifiers(), Modifier.PUBLIC | Modifier.FINAL);
-        Check.due("the class has the document's face: " + visibleMembers(), visibleMembers().equals(FACE), true);
-        privateNamesDiffer();
-        staticFieldsAreFinal();
-        sourceKeepsToTheLanguage();
-        Check.finish("FaceTest");
+    @Sentence("public final class SceneTree {")
+    static void theClassIsPublicAndFinal() {
+        Check.due("its modifiers", SceneTree.class.getModifiers(), Modifier.PUBLIC | Modifier.FINAL);
+        Check.due("it has no package", SceneTree.class.getPackageName().isEmpty(), true);
+        Check.due("it has no class above it", SceneTree.class.getSuperclass() == Object.class, true);
+        Check.due("its interfaces", SceneTree.class.getInterfaces().length, 0);
+    }
+
+    @Sentence("""
+        public static final int NONE = -1;
+        public SceneTree();
+        public int add(int parent, int kind);
+        public void clear();
+        public boolean set(int node, int what, int x, int y, int z);
+        public boolean hang(int node, int parent);
+        public boolean hide(int node, boolean is);
+        public boolean camera(int what, int x, int y, int z);
+        public int world(int node, int i, int j) throws NoSuchElementException;
+        public int model(int node, int i, int j) throws NoSuchElementException;
+        public int seen();
+        public int inOrder(int k);
+        public int about(int node, int what) throws NoSuchElementException;
+        public int count();
+        """)
+    static void allThatOthersCanSee() {
+        Set<String> visible = visibleMembers();
+        for (String member : FACE) {
+            Check.due(member, visible.contains(member), true);
+        }
+        visible.removeAll(FACE);
+        Check.due("members beyond the face: " + visible, visible.size(), 0);
     }
 
     private static Set<String> visibleMembers() {
@@ -59,30 +78,5 @@ public final class FaceTest {
             }
         }
         return visible;
-    }
-
-    private static void privateNamesDiffer() {
-        Set<String> shown = new TreeSet<>();
-        for (Method method : SceneTree.class.getMethods()) {
-            shown.add(method.getName());
-        }
-        for (Method method : SceneTree.class.getDeclaredMethods()) {
-            boolean isPrivate = Modifier.isPrivate(method.getModifiers());
-            Check.due(method + " bears a public name", isPrivate && shown.contains(method.getName()), false);
-        }
-    }
-
-    private static void staticFieldsAreFinal() {
-        for (Field field : SceneTree.class.getDeclaredFields()) {
-            boolean changes = Modifier.isStatic(field.getModifiers()) && !Modifier.isFinal(field.getModifiers());
-            Check.due(field + " is static and not final", changes, false);
-        }
-    }
-
-    private static void sourceKeepsToTheLanguage() throws IOException {
-        String source = Files.readString(Path.of("src/main/java/SceneTree.java"));
-        for (String not : NOT_IN_THE_SOURCE) {
-            Check.due("the source has " + not, Pattern.compile(not).matcher(source).find(), false);
-        }
     }
 }

@@ -35,7 +35,8 @@ public final class Promise04SetTest {
         Check.due("not below", tree.world(3, 0, 0), Due.ONE);
     }
 
-    @Sentence("a MOVE (3 numbers, -4194304 .. 4194304), a TURN (3, -1048576 .. 1048576) and a SIZE (3, -1048576 .. 1048576)")
+    @Sentence("a MOVE (3 numbers, -4194304 .. 4194304), a TURN (3, -1048576 .. 1048576) "
+        + "and a SIZE (3, -1048576 .. 1048576)")
     static void theLastNumbersWithin() {
         for (int what = 0; what < 3; what++) {
             for (int side : new int[] {WIDEST[what], -WIDEST[what], WIDEST[what] - 1, 1 - WIDEST[what]}) {

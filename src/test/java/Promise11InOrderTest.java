@@ -14,7 +14,8 @@ public final class Promise11InOrderTest {
         return tree;
     }
 
-    @Sentence("nodes that are seen and solid, by MODEL at 2, 3, the least first; then those that are clear, the greatest first")
+    @Sentence("THE ORDER: nodes that are seen and solid, by MODEL at 2, 3, the least first; "
+        + "then those that are clear, the greatest first")
     static void solidOnesThenClearOnes() {
         SceneTree tree = row(new int[] {2, 1, 0, 2, 1, 2, 1}, new int[] {5, 9, 1, 8, -4, -6, 3});
         Due.order("order:", tree, 4, 6, 1, 3, 0, 5);
@@ -25,7 +26,8 @@ public final class Promise11InOrderTest {
         Due.order("from afar:", tree, 4, 6, 1, 3, 0, 5);
     }
 
-    @Sentence("nodes that are seen and solid, by MODEL at 2, 3, the least first; then those that are clear, the greatest first")
+    @Sentence("THE ORDER: nodes that are seen and solid, by MODEL at 2, 3, the least first; "
+        + "then those that are clear, the greatest first")
     static void aClearOneIsNeverBeforeASolidOne() {
         Due.order("the solid one further:", row(new int[] {2, 1}, new int[] {-9, 9}), 1, 0);
         Due.order("the solid one nearer:", row(new int[] {2, 1}, new int[] {9, -9}), 1, 0);

@@ -4,6 +4,23 @@ public final class Promise12AboutTest {
         Check.run("Promise 12, about", Promise12AboutTest.class);
     }
 
+    @Sentence("Of a node, what 0: its parent, 1: its kind")
+    static void itsParentAndItsKind() {
+        SceneTree tree = new SceneTree();
+        for (int node = 0; node < 48; node++) {
+            tree.add(node / 2 - 1, node % 3);
+        }
+        for (int node = 0; node < 48; node++) {
+            int asked = node;
+            Check.due("about(" + node + ", 0)", () -> tree.about(asked, 0), node / 2 - 1);
+            Check.due("about(" + node + ", 1)", () -> tree.about(asked, 1), node % 3);
+        }
+        tree.hang(47, 46);
+        Check.due("after hang: about(47, 0)", tree.about(47, 0), 46);
+        tree.hang(47, -1);
+        Check.due("after hang at none: about(47, 0)", tree.about(47, 0), -1);
+    }
+
     @Sentence("3 .. 5: its move, 6 .. 8: turn, 9 .. 11: size")
     static void allThatThereIs() {
         SceneTree tree = new SceneTree();

@@ -1,7 +1,7 @@
 import com.sun.management.ThreadMXBean;
 import java.lang.management.ManagementFactory;
 
-/** All memory is the tree's own, made once: after the constructor a call that does not throw makes nothing. */
+/** After the constructor a call that does not throw makes nothing. */
 public final class RoomTest {
     private static final int ROUNDS = 200;
     /** Half of one smallest object a round, and above what the measuring itself may make. */
@@ -10,13 +10,17 @@ public final class RoomTest {
     private static long kept = 0;
 
     public static void main(String[] args) {
+        Check.run("Terms", RoomTest.class);
+    }
+
+    @Sentence("All memory is the tree's own, made once.")
+    static void noCallMakesMore() {
         java.lang.management.ThreadMXBean bean = ManagementFactory.getThreadMXBean();
         if (bean instanceof ThreadMXBean counter && counter.isThreadAllocatedMemorySupported()) {
             measure(counter);
         } else {
             System.out.println("RoomTest: this machine does not count what a thread makes");
         }
-        Check.finish("RoomTest");
     }
 
     private static void measure(ThreadMXBean counter) {

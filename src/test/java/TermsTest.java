@@ -6,6 +6,47 @@ public final class TermsTest {
         Check.run("Terms", TermsTest.class);
     }
 
+    @Sentence("NUMBERS are ints")
+    static void numbersAreKeptToTheLastUnit() {
+        int[] widest = {Due.WIDEST_MOVE, Due.WIDEST_TURN, Due.WIDEST_SIZE};
+        for (int what = 0; what < 3; what++) {
+            for (int power = 1; power < widest[what]; power *= 2) {
+                SceneTree tree = Scene.chain(1, 1);
+                tree.set(0, what, power - 1, -power, power + 1);
+                Check.due("what " + what + ", x", tree.about(0, 3 + 3 * what), power - 1);
+                Check.due("what " + what + ", y", tree.about(0, 4 + 3 * what), -power);
+                Check.due("what " + what + ", z", tree.about(0, 5 + 3 * what), power + 1);
+            }
+        }
+    }
+
+    @Sentence("a FIXED one counts 65,536ths.")
+    static void aSizeOf65536IsOne() {
+        int[][] due = {{65536, 1000}, {32768, 500}, {131072, 2000}, {-65536, -1000}, {1048576, 16000}, {0, 0}};
+        for (int[] row : due) {
+            SceneTree tree = Scene.chain(2, 1);
+            tree.set(0, 2, row[0], row[0], row[0]);
+            tree.set(1, 0, 1000, 1000, 1000);
+            dueMoves("1000 under size " + row[0] + ":", tree, 1, row[1], row[1], row[1]);
+        }
+    }
+
+    @Sentence("MUL(a, b) is DIV(a * b, 65536).")
+    static void mulOfWideNumbers() {
+        int[][] due = {
+            {98304, 3, 4}, {98304, -3, -5}, {-98304, 3, -5}, {-98304, -3, 4}, {32768, 1, 0}, {32768, -1, -1},
+            {1048576, 1048575, 16777200}, {-1048576, 1048575, -16777200}, {1048575, 1048575, 16777184},
+            {-1048575, 1048575, -16777185}, {1048575, -1048575, -16777185}, {-1048575, -1048575, 16777184},
+            {3, 4194304, 192}, {3, -4194303, -192}, {-3, 4194303, -192},
+        };
+        for (int[] row : due) {
+            SceneTree tree = Scene.chain(2, 1);
+            tree.set(0, 2, row[0], row[0], row[0]);
+            tree.set(1, 0, row[1], row[1], row[1]);
+            dueMoves("MUL(" + row[0] + ", " + row[1] + "):", tree, 1, row[2], row[2], row[2]);
+        }
+    }
+
     /** Without turns a size stands in the matrix as it is, so the node below is moved by MUL(size, move). */
     @Sentence("DIV(a, b): the greatest whole number that is not above a / b.")
     static void divOfNumbersBelow0() {
@@ -267,6 +308,18 @@ public final class TermsTest {
         Due.world("Y:", tree, 0, c, 0, s, 0, 0, 65536, 0, 0, -s, 0, c, 0);
         tree.set(0, 1, 0, 0, 300);
         Due.world("Z:", tree, 0, c, -s, 0, 0, s, c, 0, 0, 0, 0, 65536, 0);
+    }
+
+    /** One number for each axis, so that none can be taken for another's. */
+    @Sentence("(S = SIN, C = COS of it; 1 is 65536)")
+    static void eachTurnTakesItsOwnNumber() {
+        SceneTree tree = Scene.chain(1, 1);
+        tree.set(0, 1, 1500, 0, 0);
+        Due.world("X(1500):", tree, 0, 65536, 0, 0, 0, 0, -43642, -48741, 0, 0, 48741, -43642, 0);
+        tree.set(0, 1, 0, 700, 0);
+        Due.world("Y(700):", tree, 0, 31259, 0, 57535, 0, 0, 65536, 0, 0, -57535, 0, 31259, 0);
+        tree.set(0, 1, 0, 0, -900);
+        Due.world("Z(-900):", tree, 0, 12497, 64339, 0, 0, -64339, 12497, 0, 0, 0, 0, 65536, 0);
     }
 
     @Sentence("TURN(a, b, c) = (Y(b) * X(a)) * Z(c), all with 0 in their fourth column")
