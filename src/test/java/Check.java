@@ -32,7 +32,7 @@ final class Check {
             runOne(test);
         }
         heading = "";
-        finish(tests.getName() + " (" + found.size() + " tests)");
+        finish(tests.getName() + " (" + found.size() + (found.size() == 1 ? " test)" : " tests)"));
     }
 
     static void due(String call, long got, long want) {

@@ -25,18 +25,17 @@ public final class RoomTest {
 
     private static void measure(ThreadMXBean counter) {
         counter.setThreadAllocatedMemoryEnabled(true);
-        long self = Thread.currentThread().getId();
         SceneTree[] trees = new SceneTree[ROUNDS];
         for (int round = 0; round < ROUNDS; round++) {
             trees[round] = new SceneTree();
         }
         allCalls(trees[0]);
-        counter.getThreadAllocatedBytes(self);
-        long before = counter.getThreadAllocatedBytes(self);
+        counter.getCurrentThreadAllocatedBytes();
+        long before = counter.getCurrentThreadAllocatedBytes();
         for (SceneTree tree : trees) {
             allCalls(tree);
         }
-        long made = counter.getThreadAllocatedBytes(self) - before;
+        long made = counter.getCurrentThreadAllocatedBytes() - before;
         Check.due("the calls made " + made + " bytes, more than " + MOST_BYTES, made > MOST_BYTES, false);
     }
 
